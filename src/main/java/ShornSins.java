@@ -432,23 +432,17 @@ public final class ShornSins {
         for (int what = 0; what <= 2; what++) {
             h = 31 * h + person(p, what);
         }
-        h = digestWool(h, 0, p);
-        h = digestWool(h, 5, p);
-        h = digestWool(h, HALF, p);
-        h = digestWool(h, LAST, p);
+        for (int i = 0; i < 4; i++) {
+            int month = i == 0 ? 0 : i == 1 ? 5 : i == 2 ? HALF : LAST;
+            for (int what = 0; what <= 2; what++) {
+                h = 31 * h + wool(month, p, what);
+            }
+        }
         h = 31 * h + dies(p);
         h = 31 * (31 * h + light(p, 9, NONE)) + light(p, 9, 0);
         h = 31 * (31 * h + home(p, 0)) + home(p, 1);
         h = 31 * h + ask(p);
         return 31 * (31 * h + virtue(5, 5, p, 0)) + virtue(5, 5, p, 1);
-    }
-
-    private long digestWool(long before, int month, int p) {
-        long h = before;
-        for (int what = 0; what <= 2; what++) {
-            h = 31 * h + wool(month, p, what);
-        }
-        return h;
     }
 
     private static boolean within(int v, int least, int most) {
@@ -730,7 +724,7 @@ public final class ShornSins {
         private void moult(int doers) {
             for (int p = 0; p < told.people.count; p++) {
                 int wool = now[WOOL + p];
-                if (wool > 0 && wool <= told.grace && deaths[p] == NONE && (doers >> p & 1) == 0) {
+                if (wool > 0 && wool <= told.grace && deaths[p] == NONE && ((doers >> p) & 1) == 0) {
                     now[WOOL + p] = wool - 1;
                 }
             }
@@ -1110,7 +1104,7 @@ public final class ShornSins {
         private int mostAlike(int month, int person) {
             int most = 0;
             for (int deed = 0; deed < other.told.deeds.count; deed++) {
-                if ((never >> deed & 1) != 0) {
+                if (((never >> deed) & 1) != 0) {
                     most = Math.max(most, manyLike(deed, month, person));
                 }
             }
@@ -1121,7 +1115,7 @@ public final class ShornSins {
             int wool = wools[placeOf(deed, month, person)];
             int many = 0;
             for (int d = 0; d < other.told.deeds.count; d++) {
-                if ((never >> d & 1) != 0 && wools[placeOf(d, month, person)] == wool) {
+                if (((never >> d) & 1) != 0 && wools[placeOf(d, month, person)] == wool) {
                     many++;
                 }
             }
@@ -1161,7 +1155,7 @@ public final class ShornSins {
             }
             knownSixteenths = sixteenths;
             knownLast = last;
-            int months = Course.monthsOf(other.told.rounds) & (2 << last) - 1;
+            int months = Course.monthsOf(other.told.rounds) & ((2 << last) - 1);
             int telling = Integer.bitCount(months);
             Arrays.fill(above, 0L);
             Arrays.fill(below, power(16, telling));
@@ -1170,12 +1164,13 @@ public final class ShornSins {
                 int many = Integer.bitCount(frosts);
                 long weight = power(sixteenths, many) * power(16 - sixteenths, telling - many);
                 if (weight > 0) {
+                    other.afresh();
                     supposeFrosts(frosts, last);
                     other.course.run(last);
                     addToLiving(weight);
                 }
                 // Counting up within the bits of these months alone.
-                frosts = frosts - months & months;
+                frosts = (frosts - months) & months;
             }
             for (int p = 0; p < MOST_PEOPLE; p++) {
                 reduce(p);
@@ -1183,10 +1178,9 @@ public final class ShornSins {
         }
 
         private void supposeFrosts(int frosts, int last) {
-            other.afresh();
             other.as.frosts.count = 0;
             for (int month = 0; month <= last; month++) {
-                if ((frosts >> month & 1) != 0) {
+                if (((frosts >> month) & 1) != 0) {
                     other.as.frosts.append(month, 0, 0);
                 }
             }

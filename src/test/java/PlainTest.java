@@ -154,6 +154,7 @@ final class PlainTest {
             }
             case 9: {
                 int s = number(0, 3);
+                fillWithRounds(s, months, counties);
                 due("read(" + s + ")", x.read(s), y.read(s));
                 break;
             }
@@ -161,6 +162,17 @@ final class PlainTest {
                 int what = number(0, 2);
                 due("back(" + what + ")", x.back(what), y.back(what));
             }
+        }
+    }
+
+    /** By chance alone hardly a sheet would hold rounds that may be. */
+    private void fillWithRounds(int s, int months, int counties) {
+        int form = random.nextInt(3);
+        int n = random.nextInt(14);
+        due("sheet(" + s + ", " + form + ", " + n + ")", x.sheet(s, form, n), y.sheet(s, form, n));
+        for (int i = 0; i < n; i++) {
+            int v = i % 3 == 0 ? number(0, months - 1) : i % 3 == 1 ? number(0, counties - 1) : number(1, 4);
+            due("put(" + s + ", " + form + ", " + i + ", " + v + ")", x.put(s, form, i, v), y.put(s, form, i, v));
         }
     }
 
@@ -217,7 +229,7 @@ final class PlainTest {
         switch (random.nextInt(8)) {
             case 0: {
                 int month = number(0, 23);
-                int much = number(0, 99);
+                int much = random.nextBoolean() ? 0 : number(0, 99);
                 // As it was told, mostly, or with a deed left out: anything else hardly ever comes out so.
                 if (y.people().size() > 0 && random.nextInt(4) > 0) {
                     int who = random.nextInt(y.people().size());
@@ -244,8 +256,10 @@ final class PlainTest {
                 break;
             }
             case 5: {
-                int c = random.nextInt(4) == 0 ? 16 * random.nextInt(2) : number(0, 16);
-                int last = random.nextInt(3) == 0 ? number(0, 9) : number(0, 5);
+                // Often the same chance again, as something else may have been told since.
+                boolean again = random.nextBoolean();
+                int c = again ? 5 : random.nextInt(4) == 0 ? 16 * random.nextInt(2) : number(0, 16);
+                int last = again ? 5 : random.nextInt(3) == 0 ? number(0, 9) : number(0, 5);
                 due("virtue(" + c + ", " + last + ", " + p + ", " + what + ")",
                         x.virtue(c, last, p, what), y.virtue(c, last, p, what));
                 break;
