@@ -148,6 +148,8 @@ final class WhatGoesBy {
         nobody.journey(0, 1, 3);
         nobody.journey(0, 7, 3);
         Due.is("of one that there is not", nobody.thorn(23), 0);
+        Due.type(nobody, 1, "a1m;a7m");
+        Due.is("of one that there is not, whatever it did", nobody.thorn(23), 0);
     }
 
     private static void rounds() {
@@ -327,6 +329,26 @@ final class WhatGoesBy {
         for (int month = 0; month < 24; month++) {
             Due.is("how often, behind month " + month, often.wool(month, 0, 2), Math.min(8, month + 1));
         }
+        eightPeople();
+    }
+
+    /** What is told of one is nothing to the others, nor to the cloth. */
+    private static void eightPeople() {
+        ShornSins x = Due.told("h09;h19;h29;h39;h08;h18;h28;h38", "");
+        x.round(2, 3, 2);
+        x.round(3, 0, 1);
+        for (int p = 0; p < 8; p++) {
+            boolean shorn = p == 0 || p == 3 || p == 7;
+            Due.is("wool(2, " + p + ", 0)", x.wool(2, p, 0), p == 3 || p == 7 ? 0 : p < 4 ? 9 : 8);
+            Due.is("wool(23, " + p + ", 0)", x.wool(23, p, 0), shorn ? 0 : p < 4 ? 9 : 8);
+            Due.is("wool(23, " + p + ", 1)", x.wool(23, p, 1), p % 4);
+            Due.is("wool(23, " + p + ", 2)", x.wool(23, p, 2), shorn ? 1 : 0);
+        }
+        for (int county = 0; county < 4; county++) {
+            int due = county == 0 ? 9 : county == 3 ? 17 : 0;
+            Due.is("cloth(23, " + county + ", 0)", x.cloth(23, county, 0), due);
+            Due.is("cloth(23, " + county + ", 1)", x.cloth(23, county, 1), 2 * due);
+        }
     }
 
     private static void dying() {
@@ -428,6 +450,11 @@ final class WhatGoesBy {
         x.round(0, 1, 1);
         Due.is("first(0), month 0", x.first(0), 0);
         Due.is("first(1), month 0", x.first(1), 3);
+        for (int n = 4; n >= 0; n--) {
+            x.back(0);
+        }
+        Due.is("first(0), all rounds undone", x.first(0), ShornSins.NONE);
+        Due.is("first(1), all rounds undone", x.first(1), ShornSins.NONE);
     }
 
     private static void promiseWool() {

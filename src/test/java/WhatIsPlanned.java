@@ -83,6 +83,9 @@ final class WhatIsPlanned {
         planIs(x, 1, 0, 1, 38);
         x.set(1, 11);
         planIs(x, 1, 0, 0, 38);
+        ShornSins moults = Due.told("h09", "");
+        moults.set(0, 9);
+        planIs(moults, 1, 0, 0, 16);
     }
 
     private static void lightIs(ShornSins x, int person, int most, int many, int a, int b) {
@@ -156,6 +159,11 @@ final class WhatIsPlanned {
         lightIs(shorn, 0, 9, 0, NONE, NONE);
         lightIs(shorn, 0, 8, 1, 1, NONE);
         lightIs(shorn, 0, 0, 1, 1, NONE);
+        ShornSins moults = Due.told("h04", "");
+        lightIs(moults, 0, 3, NONE, NONE, NONE);
+        moults.set(0, 4);
+        lightIs(moults, 0, 3, 0, NONE, NONE);
+        lightIs(moults, 0, 2, NONE, NONE, NONE);
     }
 
     private static void spareIs(ShornSins x, int many, int a, int b) {
@@ -225,6 +233,15 @@ final class WhatIsPlanned {
         spareIs(light, 0, NONE, NONE);
         light.set(1, 1);
         spareIs(light, 1, 1, NONE);
+        for (int month = 0; month <= 23; month++) {
+            ShornSins x = Due.told("h09", "");
+            x.set(1, 9);
+            x.round(month, 0, 1);
+            x.frost(month);
+            spareIs(x, 1, 0, NONE);
+            x.set(0, 9);
+            spareIs(x, 0, NONE, NONE);
+        }
     }
 
     private static void homeIs(ShornSins x, int person, int county, int much) {
@@ -272,6 +289,13 @@ final class WhatIsPlanned {
         dies.round(3, 1, 1);
         dies.frost(1);
         homeIs(dies, 0, 1, 19);
+        for (int month = 0; month <= 23; month++) {
+            ShornSins y = Due.told("h09", "");
+            y.round(month, 2, 1);
+            homeIs(y, 0, 2, 9);
+            y.set(0, 9);
+            homeIs(y, 0, month < 8 ? 2 : 0, Math.max(0, 8 - month));
+        }
     }
 
     private static void promisePlan() {

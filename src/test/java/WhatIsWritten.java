@@ -493,14 +493,13 @@ final class WhatIsWritten {
         }
     }
 
-    private static long digestOf(Country country) {
-        ShornSins x = country.make();
+    private static long digestOf(ShornSins x) {
         Sum h = new Sum();
         for (int what = 0; what <= 7; what++) {
             h.and(x.count(what));
         }
         h.and(x.fault(0), x.fault(1));
-        for (int p = 0; p < country.people; p++) {
+        for (int p = 0; p < x.count(0); p++) {
             h.and(x.person(p, 0), x.person(p, 1), x.person(p, 2));
             for (int month : new int[] {0, 5, 11, 23}) {
                 h.and(x.wool(month, p, 0), x.wool(month, p, 1), x.wool(month, p, 2));
@@ -508,7 +507,7 @@ final class WhatIsWritten {
             h.and(x.dies(p), x.light(p, 9, -1), x.light(p, 9, 0), x.home(p, 0), x.home(p, 1), x.ask(p));
             h.and(x.virtue(5, 5, p, 0), x.virtue(5, 5, p, 1));
         }
-        for (int d = 0; d < country.deeds; d++) {
+        for (int d = 0; d < x.count(1); d++) {
             h.and(x.deed(d, 0), x.deed(d, 1), x.deed(d, 2), x.was(d, 0), x.was(d, 1));
         }
         for (int c = 0; c <= 3; c++) {
@@ -520,6 +519,23 @@ final class WhatIsWritten {
         return h.asLong();
     }
 
+    /** So much goes on in months 5, 6, 11, 12, 22 and 23 that one month is not like the next. */
+    private static ShornSins busy() {
+        ShornSins x = Due.told("h08;h09;f09;h19;f27;c33", "a0l;f5l;l2m;m3t;w1m;x2m;b4e;g1l");
+        x.set(1, 9);
+        int[][] rounds = {{6, 0, 1}, {5, 1, 1}, {11, 2, 1}, {12, 0, 1}, {12, 1, 1}, {22, 3, 1}, {23, 0, 2}};
+        for (int[] r : rounds) {
+            x.round(r[0], r[1], r[2]);
+        }
+        int[][] journeys = {{11, 5, 0}, {12, 4, 1}, {22, 5, 1}, {23, 4, 3}, {10, 0, 2}};
+        for (int[] j : journeys) {
+            x.journey(j[0], j[1], j[2]);
+        }
+        x.frost(12);
+        x.seen(0, 4, 7);
+        return x;
+    }
+
     private static void digest() {
         Doc.section("Promise 39: digest");
         Doc.says("h is 17; h becomes 31 h and each of: count() 0 to 7; of texts fault(); of PEOPLE person() 0 to 2, of MONTHS "
@@ -528,7 +544,17 @@ final class WhatIsWritten {
                 + "and 1), cloth(23, it, 0 and 1); of MONTHS 0, 11, 23 thorn(), heaviest(); tax() 0, 1, first() 0, 1, plan(2, "
                 + "0 to 2), spare(NONE), spare(0), never(), years(7, 9, 0 and 1); as longs that wrap");
         for (Country country : Country.values()) {
-            country.keeps("digest()", x -> x.digest(), digestOf(country));
+            country.keeps("digest()", x -> x.digest(), digestOf(country.make()));
+        }
+        for (int fault = 0; fault <= 3; fault++) {
+            ShornSins y = busy();
+            if ((fault & 1) != 0) {
+                y.type(0, ';');
+            }
+            if ((fault & 2) != 0) {
+                y.type(1, 'f');
+            }
+            Due.is("digest() of a busy one", y.digest(), digestOf(y));
         }
         long empty = new Sum().and(0, 0, 0, 0, 0, 0, 0, 0, -1, -1).and(new long[16])
                 .and(0, -1, 0, -1, 0, -1, 0, 0, -1, -1, 0, 0, 0, 0, -1, 0, 0, 0).asLong();

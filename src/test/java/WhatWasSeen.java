@@ -113,6 +113,13 @@ final class WhatWasSeen {
         shorn.round(0, 0, 1);
         shorn.seen(0, 0, 0);
         Due.is("but for which another was shorn", shorn.never(), 1);
+        ShornSins moults = Due.told("h00;h04", "a0l");
+        moults.seen(0, 1, 3);
+        Due.is("too heavy to moult", moults.never(), 0);
+        moults.set(0, 4);
+        Due.is("moults by another grace", moults.never(), 1);
+        Due.is("whatever it was", moults.was(0, 0), 15);
+        Due.is("not by the one that moults", moults.was(0, 1), 1);
     }
 
     private static void what() {
@@ -196,6 +203,13 @@ final class WhatWasSeen {
         Due.is("4, in month 22 3, in month 23 2", fewer.ask(1), 23);
         ShornSins least = Due.told("h09;h09", "w1l;w1l;x1e;x1t");
         Due.is("4, in month 22 2, in month 23 still 2", least.ask(1), 22);
+        ShornSins ten = Due.told("h09;h09", "x0l;x0l;x0l;x0l;w0l;x0l;x0l;x0l;x0l;x0l");
+        Due.is("10, in month 22 9, in month 23 10 again", ten.ask(0), 22);
+        Due.is("10 in all months", ten.ask(1), 0);
+        ShornSins eight = Due.told("h09;h09;h09;h09;h09;h09;h09;h09", "c7l;d7m;f0l;f0m");
+        Due.is("the first of eight: 2 alike in month 5", eight.ask(0), 5);
+        Due.is("the eighth: 3 alike in month 2, 2 in month 3", eight.ask(7), 3);
+        Due.is("one between", eight.ask(6), 0);
     }
 
     private static void virtueIs(ShornSins x, int c, int last, int p, long above, long below) {
@@ -262,6 +276,34 @@ final class WhatWasSeen {
             virtueIs(most, 1, last, 0, above, below);
         }
         Due.is("beyond the ints", below, 1L << 32);
+        virtueOfEach();
+    }
+
+    /** Eight of whom each is shorn in a month of its own, all eight of which may have frost. */
+    private static void virtueOfEach() {
+        ShornSins x = Due.told("h09;h19;h29;h39;h08;h18;h28;h38", "");
+        x.set(1, 8);
+        for (int i = 0; i < 8; i++) {
+            x.round(i + 2, i % 4, 1);
+        }
+        for (int p = 0; p < 8; p++) {
+            virtueIs(x, 5, 9, p, 11, 16);
+            virtueIs(x, 5, p + 1, p, 1, 1);
+            virtueIs(x, 5, p + 2 > 9 ? 9 : p + 2, p, 11, 16);
+        }
+        x.set(1, 9);
+        virtueIs(x, 5, 9, 3, 11, 16);
+        virtueIs(x, 5, 9, 4, 1, 1);
+        x.set(0, 9);
+        virtueIs(x, 5, 9, 3, 1, 1);
+        x.set(0, 3);
+        virtueIs(x, 5, 9, 3, 11, 16);
+        x.set(1, 8);
+        virtueIs(x, 0, 9, 3, 1, 1);
+        virtueIs(x, 5, 9, 3, 11, 16);
+        x.back(0);
+        virtueIs(x, 16, 9, 3, 0, 1);
+        virtueIs(x, 16, 9, 7, 1, 1);
     }
 
     private static void fractions() {
@@ -363,6 +405,9 @@ final class WhatWasSeen {
         frost.round(0, 0, 1);
         Due.is("all else as told", frost.years(1, 1, 0), 18);
         Due.is("the dead do nothing in month 14", frost.years(1, 1, 1), 18);
+        ShornSins moults = Due.told("h09", "");
+        moults.set(0, 9);
+        Due.is("all has moulted, the envy of month 14 too", moults.years(1, 1, 1), 0);
     }
 
     private static void longRefusal() {
