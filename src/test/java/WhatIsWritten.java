@@ -536,6 +536,18 @@ final class WhatIsWritten {
         return x;
     }
 
+    /** One that has 10 of wool and goes in months 11, 12, 22 and 23, to be shorn of all that it did. */
+    private static ShornSins walker() {
+        ShornSins x = Due.told("h09", "a0l");
+        x.set(0, 0);
+        x.journey(11, 0, 1);
+        x.journey(12, 0, 0);
+        x.journey(22, 0, 1);
+        x.journey(23, 0, 0);
+        x.round(23, 0, 1);
+        return x;
+    }
+
     private static void digest() {
         Doc.section("Promise 39: digest");
         Doc.says("h is 17; h becomes 31 h and each of: count() 0 to 7; of texts fault(); of PEOPLE person() 0 to 2, of MONTHS "
@@ -556,6 +568,8 @@ final class WhatIsWritten {
             }
             Due.is("digest() of a busy one", y.digest(), digestOf(y));
         }
+        ShornSins walker = walker();
+        Due.is("digest() of a walker", walker.digest(), digestOf(walker));
         long empty = new Sum().and(0, 0, 0, 0, 0, 0, 0, 0, -1, -1).and(new long[16])
                 .and(0, -1, 0, -1, 0, -1, 0, 0, -1, -1, 0, 0, 0, 0, -1, 0, 0, 0).asLong();
         ShornSins x = new ShornSins();
