@@ -96,6 +96,11 @@ final class WhatGoesBy {
             Due.is("did something in months 1 and 2", did.wool(month, 0, 0), first[month]);
             Due.is("did something in month 3", did.wool(month, 1, 0), other[month]);
         }
+        ShornSins many = Due.told("h01;h02;h01;h02", "a0l;a3l;a1l");
+        int[] left = {2, 3, 0, 3};
+        for (int p = 0; p < 4; p++) {
+            Due.is("three did something in month 0: wool of " + p, many.wool(0, p, 0), left[p]);
+        }
         ShornSins grown = Due.told("h03", "a0l");
         Due.is("heavier than grace by a deed", grown.wool(23, 0, 0), 4);
         ShornSins x = Due.told("h01", "");
