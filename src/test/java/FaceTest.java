@@ -87,6 +87,11 @@ final class FaceTest {
             String pattern = word.matches("[a-z]+") ? "\\b" + word + "\\b" : word;
             Due.is("not in the language: " + word, Pattern.compile(pattern).matcher(bare).find() ? 1 : 0, 0);
         }
+        Listing listing = new Listing(bare);
+        Due.isTrue("the methods are found: " + listing.size(), listing.size() > 100);
+        Due.isTrue("methods stay short: " + listing.longest(), listing.longest() <= 60);
+        Due.isTrue("calls go at most eight deep: " + listing.deepest(), listing.deepest() <= 8);
+        Due.isTrue("a call makes no object:" + listing.makers(), listing.makers().isEmpty());
         Matcher imports = Pattern.compile("\\bimport ([^;]*);").matcher(bare);
         while (imports.find()) {
             Due.is("import " + imports.group(1), imports.group(1).equals("java.util.Arrays") ? 1 : 0, 1);
